@@ -31,7 +31,6 @@ public final class CompareTest {
 
     private void play() {
         for (int i = 0; i < CALLS; i++) {
-            // The plain model is slow in a game of many rows: some runs stay in the first, small games.
             int choice = below(100);
             if (choice < 3) {
                 beginSome();
@@ -93,7 +92,8 @@ public final class CompareTest {
     }
 
     private void search() {
-        boolean isSmall = plain.rows() * plain.left() <= 4000;
+        // The plain model is slow where many guesses part many rows.
+        boolean isSmall = plain.rows() * plain.left() <= 8000;
         switch (below(4)) {
             case 0 -> both("bestGuess", isSmall ? below(5) - 1 : 3);
             case 1 -> {

@@ -7,6 +7,8 @@ public final class PlainModel {
     private int colours = 4;
     private int lies = 0;
     private int hidden = -1;
+    /** Marks by one row and another, once they were counted; 0 for not yet, else the mark plus 1. */
+    private int[][] counted = new int[256][256];
     private final List<int[]> told = new ArrayList<>();
 
     public int begin(int newPlaces, int newColours) {
@@ -16,23 +18,39 @@ public final class PlainModel {
         colours = newColours;
         lies = 0;
         hidden = -1;
+        counted = new int[256][256];
         told.clear();
         return rows();
     }
 
     public int rows() {
-        return (int) Math.round(Math.pow(colours, places));
+        return power(places);
+    }
+
+    private int power(int exponent) {
+        int power = 1;
+        for (int i = 0; i < exponent; i++) {
+            power *= colours;
+        }
+        return power;
     }
 
     public int colourAt(int row, int place) {
         index(row, rows());
         index(place, places);
-        return row / (int) Math.round(Math.pow(colours, places - 1 - place)) % colours;
+        return row / power(places - 1 - place) % colours;
     }
 
     public int mark(int one, int other) {
         index(one, rows());
         index(other, rows());
+        if (counted[one][other] == 0) {
+            counted[one][other] = 1 + countMark(one, other);
+        }
+        return counted[one][other] - 1;
+    }
+
+    private int countMark(int one, int other) {
         int black = 0;
         for (int place = 0; place < places; place++) {
             black += colourAt(one, place) == colourAt(other, place) ? 1 : 0;
