@@ -263,7 +263,7 @@ public final class GuessMarks {
     }
 
     public int guessesNeeded() throws IllegalStateException {
-        if (leftCount == 0 || leftCount > MOST_SEARCHED) {
+        if (leftCount < 1 || leftCount > MOST_SEARCHED) {
             throw new IllegalStateException("no row is left, or too many are");
         }
         System.arraycopy(rowsLeft, 0, search, 0, leftCount);

@@ -5,6 +5,8 @@ public final class GuessesTest {
     public static void main(String[] args) {
         partsOfAll();
         partsOfSome();
+        partsOfEightPlaces();
+        eachCallPartsAnew();
         partsOfNone();
         partsWrong();
         bestGuess();
@@ -66,6 +68,44 @@ public final class GuessesTest {
         x.allowLies(1);
         Check.due("22: worstCase(1), with a lie all are left", 4, () -> x.worstCase(1));
         Check.due("19: parts(1), with a lie all are left", 5, () -> x.parts(1));
+    }
+
+    /** Guess 0 has k black pins with the rows of which k places have colour 0: 8 over k of them. */
+    private static void partsOfEightPlaces() {
+        GuessMarks x = game(8, 2);
+        int[] sizes = {1, 8, 28, 56, 70, 56, 28, 8, 1};
+        int weight = 0;
+        for (int i = 0; i < 9; i++) {
+            int black = i;
+            Check.due("21: partSize(0, " + 10 * black + ")", sizes[black], () -> x.partSize(0, 10 * black));
+            weight += sizes[black] * sizes[black];
+        }
+        int due = weight;
+        Check.due("23: weight(0), eight places", due, () -> x.weight(0));
+        Check.due("22: worstCase(0), eight places", 70, () -> x.worstCase(0));
+        Check.due("19: parts(0), eight places", 9, () -> x.parts(0));
+        Check.due("20: partMark(0, 0), eight places", 80, () -> x.partMark(0, 0));
+        Check.due("20: partMark(0, 8), eight places", 0, () -> x.partMark(0, 8));
+        Check.due("20: partMark(255, 8), eight places", 80, () -> x.partMark(255, 8));
+        x.tell(15, 80);
+        Check.due("24: bestGuess(0), one row of eight places left", 15, () -> x.bestGuess(0));
+    }
+
+    /** Each call is about another guess than the call before it. */
+    private static void eachCallPartsAnew() {
+        GuessMarks x = game(2, 3);
+        x.parts(0);
+        Check.due("20: partMark(1, 1) after parts(0)", 20, () -> x.partMark(1, 1));
+        Check.due("20: partMark(0, 1) after partMark(1, 1)", 10, () -> x.partMark(0, 1));
+        Check.due("21: partSize(1, 1) after partMark(0, 1)", 2, () -> x.partSize(1, 1));
+        Check.due("22: worstCase(0) after partSize(1, 1)", 4, () -> x.worstCase(0));
+        Check.due("23: weight(1) after worstCase(0)", 23, () -> x.weight(1));
+        Check.due("19: parts(0) after weight(1)", 3, () -> x.parts(0));
+        Check.due("23: weight(1) after parts(0)", 23, () -> x.weight(1));
+        x.bestGuess(0);
+        Check.due("22: worstCase(1) after bestGuess(0)", 4, () -> x.worstCase(1));
+        x.tell(1, 10);
+        Check.due("22: worstCase(2) after tell(1, 10)", 1, () -> x.worstCase(2));
     }
 
     private static void partsOfNone() {
