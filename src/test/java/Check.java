@@ -13,8 +13,14 @@ final class Check {
     private static final Class<IllegalStateException> BAD_STATE = IllegalStateException.class;
 
     private static int wrong = 0;
+    private static String sentence = "";
 
     private Check() {
+    }
+
+    /** The document's words that the next checks are about; they stand ahead of what these tell. */
+    static void sentence(String words) {
+        sentence = "[" + words + "] ";
     }
 
     static void due(String call, long due, Call made) {
@@ -44,7 +50,7 @@ final class Check {
     static void same(String what, String due, String got) {
         if (!due.equals(got)) {
             wrong++;
-            System.out.println(what + " answered " + got + ", due is " + due);
+            System.out.println(sentence + what + " answered " + got + ", due is " + due);
         }
     }
 
@@ -55,7 +61,7 @@ final class Check {
         }
     }
 
-    private static String outcome(Call made) {
+    static String outcome(Call made) {
         try {
             return Long.toString(made.answer());
         } catch (RuntimeException e) {

@@ -77,20 +77,20 @@ public final class GameTest {
     }
 
     private static void beginWrong() {
-        GuessMarks x = game(2, 3);
-        x.allowLies(1);
-        x.hide(5);
-        x.tell(0, 20);
-        x.guess(3);
-        String before = State.of(x);
+        Refused refused = new Refused("two told", () -> {
+            GuessMarks x = game(2, 3);
+            x.allowLies(1);
+            x.hide(5);
+            x.tell(0, 20);
+            x.guess(3);
+            return x;
+        });
         int[][] wrong = {
             {0, 2}, {-1, 2}, {9, 2}, {1, 1}, {1, 0}, {1, -1}, {1, 7}, {8, 3}, {6, 3}, {5, 4}, {4, 5}, {4, 6},
             {0, 0}, {LOW, 2}, {HIGH, 2}, {1, LOW}, {1, HIGH}, {32, 2}, {HIGH, HIGH}, {LOW, LOW}, {8, 6}
         };
         for (int[] each : wrong) {
-            String call = "2: begin(" + each[0] + ", " + each[1] + ")";
-            Check.badArgument(call, () -> x.begin(each[0], each[1]));
-            State.unchanged(call, before, x);
+            refused.badArgument("2: begin(" + each[0] + ", " + each[1] + ")", x -> x.begin(each[0], each[1]));
         }
     }
 

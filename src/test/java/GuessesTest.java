@@ -225,7 +225,7 @@ public final class GuessesTest {
         Check.due("25: guessesNeeded()", 3, x::guessesNeeded);
         x.begin(3, 3);
         x.tell(5, 12);
-        Check.due("25: guessesNeeded(), 7, 11 and 15 are parted by 1", 2, x::guessesNeeded);
+        Check.due("25: guessesNeeded(), 7, 11 and 21 are parted by 1", 2, x::guessesNeeded);
     }
 
     private static void guessesNeededAtItsBound() {
@@ -237,12 +237,15 @@ public final class GuessesTest {
         x.tell(7, 2);
         Check.due("25: left()", 24, x::left);
         Check.due("25: guessesNeeded(), 24 rows left", 3, x::guessesNeeded);
-        x.begin(3, 6);
-        x.tell(8, 11);
-        Check.due("25: left() of six colours", 24, x::left);
-        String before = State.of(x);
-        Check.due("25: guessesNeeded(), 24 rows left of six colours", 4, x::guessesNeeded);
-        State.unchanged("guessesNeeded", before, x);
-        Check.due("25: guessesNeeded() again", 4, x::guessesNeeded);
+        GuessMarks six = game(3, 6);
+        six.tell(8, 11);
+        Check.due("25: left() of six colours", 24, six::left);
+        String before = State.of(six);
+        Check.due("25: guessesNeeded(), 24 rows left of six colours", 4, six::guessesNeeded);
+        Check.due("25: guessesNeeded() again", 4, six::guessesNeeded);
+        GuessMarks asked = game(3, 6);
+        asked.tell(8, 11);
+        asked.guessesNeeded();
+        State.unchanged("guessesNeeded", before, asked);
     }
 }
